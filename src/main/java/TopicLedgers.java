@@ -816,7 +816,6 @@ public final class TopicLedgers {
             attached = 0;
             sentBefore = CONSUMERS - 1;
             acked.clear();
-            Arrays.fill(permits, 0);
             Arrays.fill(sentTo, NONE);
         }
 
@@ -831,7 +830,6 @@ public final class TopicLedgers {
 
         void drop(int c) {
             attached &= ~(1 << c);
-            permits[c] = 0;
             for (int position = 0; position < POSITIONS; position++) {
                 if (sentTo[position] == c) {
                     sentTo[position] = NONE;

@@ -13,6 +13,7 @@ public final class PromisesTest {
         closeWriting();
         closeRecovering();
         safeEntries();
+        nothingIsLeft();
         open();
         publish();
         attach();
@@ -226,6 +227,21 @@ public final class PromisesTest {
         run("6 a new recovery", oneConfirmed(), "own(1) = 1; fence(1, 0) = 1; fence(1, 1) = 1; own(1) = 1; close(1) ! ISE; fence(1, 0) = 1; close(1) ! ISE; fence(1, 1) = 1; close(1) = 0");
     }
 
+    private static void nothingIsLeft() {
+        run("6 replied and given", small(), "own(0) = 2; open(0, 0) = 0; publish(0, 0, 1, 1) = 0; add(0, 0) = 1; publish(0, 0, 2, 1) = 1; publish(0, 0, 3, 1) = 2; add(0, 1) = 2; add(0, 2) = 2",
+                "own(1) = 1; fence(1, 0) = 1; fence(1, 1) = 2; fence(1, 2) = 2; close(1) ! ISE; add(1, 0) = 1; entry(0, 0) = 1; entry(0, 2) = 3; close(1) = 2");
+        run("2 no told of before", small(), "own(0) = 2; open(0, 0) = 0; publish(0, 0, 1, 1) = 0; add(0, 0) = 1; sync(0) = 1; own(0) = 1; fence(0, 0) = 1; fence(0, 1) = 0; add(0, 1) = 1; close(0) = 0",
+                "open(0, 0) = 1; publish(0, 0, 2, 2) = 8; add(0, 1) = 1; sync(1) = 1; broker(0, 2) = 0");
+        run("2 no replies of before", small(), "own(0) = 2; open(0, 0) = 0; publish(0, 0, 1, 1) = 0; add(0, 0) = 1; own(1) = 1; fence(1, 0) = 1; power(0, false); wipe(0); own(1) = 1",
+                "fence(1, 1) = 0; fence(1, 2) = 0; broker(1, 2) = 0; close(1) = -1");
+        run("2 no synced of before", oneConfirmed(), "own(1) = 1; fence(1, 0) = 1; fence(1, 1) = 1; own(1) = 1; fence(1, 1) = 1; fence(1, 2) = 0; broker(1, 2) = 1; close(1) ! ISE");
+        run("3 fences of two ledgers", small(), "own(0) = 2; open(0, 0) = 0; own(0) = 1; fence(0, 0) = 0; fence(0, 1) = 0; close(0) = -1; open(0, 0) = 1; own(0) = 1; fence(0, 0) = 0",
+                "fenced(0, 0) = true; fenced(0, 1) = true; fenced(1, 1) = false");
+        run("15 given again after the trim", new TopicLedgers(3, 3, 3, 2), "own(0) = 2; open(0, 0) = 0; publish(0, 0, 1, 1) = 0; add(0, 0) = 1; add(0, 1) = 1; add(0, 2) = 1; sync(0) = 1; sync(1) = 1; sync(2) = 1",
+                "own(1) = 1; fence(1, 0) = 1; fence(1, 1) = 1; close(1) = 0; attach(1, 0, 0); attach(1, 1, 0); permit(1, 0, 0, 1); permit(1, 1, 0, 1); send(1, 0) = 0; send(1, 1) = 0",
+                "ack(1, 0, 0, 0, false) = 1; ack(1, 1, 0, 0, false) = 1; save(1) = 2; trim(1) = 1; entry(2, 0) = 0; add(0, 2) = 1; entry(2, 0) = 101; sync(2) = 1");
+    }
+
     private static void open() {
         run("7 wrong", small(), "open(0, 0) ! ISE; open(-1, 0) ! IAE; open(3, 0) ! IAE; open(0, -1) ! IAE; open(0, 3) ! IAE; own(0) = 2; open(0, 3) ! IAE",
                 "run(0, false); open(0, 0) ! ISE; run(0, true); open(0, 0) ! ISE; own(0) = 2; open(0, 0) = 0; open(0, 0) ! ISE; own(1) = 1; open(1, 0) ! ISE");
@@ -238,7 +254,9 @@ public final class PromisesTest {
                 "open(0, 0) = 0; close(0) = -1; open(0, 0) = 1; close(0) = -1; open(0, 0) = 2; close(0) = -1; open(0, 0) = 3; close(0) = -1",
                 "open(0, 0) = 4; close(0) = -1; open(0, 0) = 5; close(0) = -1; open(0, 0) = 6; close(0) = -1; open(0, 0) = 7; close(0) = -1",
                 "open(0, 0) = 8; close(0) = -1; open(0, 2) = 9; publish(0, 0, 1, 1) = 72; add(0, 2) = 1; add(0, 0) = 1; sync(0) = 1; sync(2) = 1",
-                "close(0) = 0; open(0, 0) ! IOOBE; broker(0, 0) = 2; meta(2) = 10; meta(0) = 21; ledger(9, 6) = 1; ledger(10, 0) = -2; own(1) = 2; open(0, 0) ! UOE");
+                "close(0) = 0; open(0, 0) ! IOOBE; broker(0, 0) = 2; meta(2) = 10; meta(0) = 21; ledger(9, 6) = 1; ledger(10, 0) = -2",
+                "attach(0, 0, 3); permit(0, 0, 3, 9); send(0, 0) = 372; send(0, 0) ! NSEE; ack(0, 0, 3, 72, true) = 1; attach(0, 1, 3); permit(0, 1, 3, 9); send(0, 1) = 372",
+                "ack(0, 1, 3, 72, true) = 1; trim(0) = 9; meta(3) = 9; save(0) = 2; trim(0) = 1; meta(3) = 10; trim(0) = 0; send(0, 0) ! NSEE; own(1) = 2; open(0, 0) ! UOE");
     }
 
     private static void publish() {
