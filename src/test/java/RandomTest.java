@@ -1,24 +1,20 @@
-import java.lang.reflect.InvocationTargetException;
-import java.lang.reflect.Method;
-import java.util.ArrayList;
 import java.util.Arrays;
-import java.util.HashMap;
-import java.util.List;
 import java.util.Map;
 import java.util.Random;
 import java.util.TreeMap;
 
 /**
- * Random runs of calls, always the same ones, held against Model: every answer, and after every call all that can be
- * asked. So it is seen as well that what throws changes nothing but as said, and that nothing else is ever thrown.
+ * Random runs of calls, always the same ones, held against Model: every answer, some of what can be asked on the way,
+ * and all of it once in each run. So it is seen as well that what throws changes nothing but as said, and that nothing
+ * else is ever thrown.
  */
 public final class RandomTest {
-    private static final int RUNS = 500;
-    private static final int CALLS = 512;
+    private static final int RUNS = 2000;
     private static final int[] STRANGE = {-1, -2, 4, 6, 10, 80, 101, 1001, Integer.MAX_VALUE, Integer.MIN_VALUE};
     private static final String[] ANY = {"own", "fence", "add", "sync", "close", "open", "publish", "attach", "detach",
-        "permit", "send", "ack", "save", "trim", "power", "power", "wipe", "run"};
-    private static final String[] CONSUMING = {"attach", "permit", "send", "send", "send", "ack", "ack", "ack"};
+        "detach", "permit", "send", "ack", "save", "trim", "power", "power", "wipe", "run"};
+    private static final String[] CONSUMING = {"attach", "attach", "permit", "permit", "send", "send", "send", "send", "ack", "ack", "ack"};
+    private static final String[] QUESTIONS = {"meta", "ledger", "entry", "broker", "broker", "message", "heard", "acked", "fenced"};
     /** What gets a broker on, by its phase. */
     private static final String[][] USEFUL = {
         {"own"},
@@ -26,63 +22,101 @@ public final class RandomTest {
         {"open", "open", "save", "trim"},
         {"publish", "publish", "publish", "add", "add", "add", "sync", "sync", "close"},
     };
-    private static final Map<String, Method> REAL = methodsOf(TopicLedgers.class);
-    private static final Map<String, Method> DUE = methodsOf(Model.class);
 
     private final Random random;
-    private final TopicLedgers topic;
+    private final Run run;
     private final Model model;
+    private final Map<String, Integer> seen;
 
-    private RandomTest(int seed) {
+    private RandomTest(int seed, Map<String, Integer> seen) {
         random = new Random(seed);
+        this.seen = seen;
         int[] sizes = {random.nextInt(5) + 2, random.nextInt(5), random.nextInt(4), random.nextInt(4)};
-        topic = new TopicLedgers(sizes[0], sizes[1], sizes[2], sizes[3]);
+        run = new Run(sizes[0], sizes[1], sizes[2], sizes[3]);
         model = new Model(sizes[0], sizes[1], sizes[2], sizes[3]);
     }
 
     public static void main(String[] args) {
         Map<String, Integer> seen = new TreeMap<>();
         for (int seed = 0; seed < RUNS; seed++) {
-            RandomTest test = new RandomTest(seed);
-            for (int i = 0; i < CALLS; i++) {
-                String wrong = test.step(seen);
-                if (wrong != null) {
-                    System.out.println("run " + seed + ", call " + i + ": " + wrong);
-                    System.exit(1);
-                }
+            String wrong = new RandomTest(seed, seen).firstDifference();
+            if (wrong != null) {
+                System.out.println("run " + seed + ", " + wrong);
+                System.exit(1);
             }
         }
         if (args.length > 0) {
             seen.forEach((what, count) -> System.out.println(what + " " + count));
         }
-        System.out.println(RUNS + " runs of " + CALLS + " calls are as the model's");
+        System.out.println(RUNS + " runs of " + Run.MOST_CALLS + " calls are as the model's");
     }
 
-    private static Map<String, Method> methodsOf(Class<?> type) {
-        Map<String, Method> methods = new HashMap<>();
-        for (String name : ANY) {
-            for (Method method : type.getDeclaredMethods()) {
-                if (method.getName().equals(name)) {
-                    methods.put(name, method);
-                }
+    private String firstDifference() {
+        int roomWhenAllIsAsked = 60 + random.nextInt(Run.MOST_CALLS - 60);
+        String wrong = null;
+        while (run.room() > 0 && wrong == null) {
+            wrong = run.room() == roomWhenAllIsAsked ? differenceInAll() : null;
+            wrong = wrong == null ? compare(run, random.nextInt(3) == 0 ? question() : someCall()) : wrong;
+        }
+        return wrong == null ? null : "with room for " + run.room() + " calls: " + wrong;
+    }
+
+    private String differenceInAll() {
+        Run copy = run.again();
+        for (Call call : Sight.questions(model.ledgers.size(), model.messages.size())) {
+            copy = copy.room() == 0 ? run.again() : copy;
+            String wrong = compare(copy, call);
+            if (wrong != null) {
+                return wrong;
             }
         }
-        return methods;
+        return null;
     }
 
-    private String step(Map<String, Integer> seen) {
+    private String compare(Run asked, Call call) {
+        String due = call.on(model);
+        String got = asked.make(call);
+        seen.merge(call.name + (Call.isRefusal(due) ? " " + due : ""), 1, Integer::sum);
+        return got.equals(due) ? null : call + " -> " + got + ", due is " + due;
+    }
+
+    private Call question() {
+        String name = QUESTIONS[random.nextInt(QUESTIONS.length)];
+        int l = Math.max(0, model.ledgers.size() - 1 - random.nextInt(3));
+        int position = 8 * l + random.nextInt(7);
+        switch (name) {
+            case "ledger":
+                return new Call(name, perhapsStrange(l, random.nextInt(11)));
+            case "entry":
+                return new Call(name, perhapsStrange(random.nextInt(model.bookieCount), position));
+            case "broker":
+                return new Call(name, perhapsStrange(random.nextInt(3), random.nextInt(4)));
+            case "message":
+                return new Call(name, perhapsStrange(random.nextInt(model.messages.size() + 1), random.nextInt(3)));
+            case "acked":
+                return new Call(name, perhapsStrange(random.nextInt(4) - 1, random.nextInt(2), position));
+            case "fenced":
+                return new Call(name, perhapsStrange(random.nextInt(model.bookieCount), l));
+            default:
+                return new Call(name, perhapsStrange(random.nextInt(4)));
+        }
+    }
+
+    private Object[] perhapsStrange(int... numbers) {
+        if (random.nextInt(25) == 0) {
+            numbers[random.nextInt(numbers.length)] = STRANGE[random.nextInt(STRANGE.length)];
+        }
+        Object[] all = new Object[numbers.length];
+        for (int i = 0; i < all.length; i++) {
+            all[i] = numbers[i];
+        }
+        return all;
+    }
+
+    private Call someCall() {
         int b = model.owner >= 0 && random.nextInt(10) < 7 ? model.owner : random.nextInt(3);
         String name = someName(b);
-        Object[] arguments = arguments(name, b);
-        String call = name + Arrays.toString(arguments);
-        String due = invoke(DUE.get(name), model, arguments);
-        String got = invoke(REAL.get(name), topic, arguments);
-        seen.merge(name + (due.matches("-?\\d+|null") ? "" : " " + due), 1, Integer::sum);
-        if (!got.equals(due)) {
-            return call + " -> " + got + ", due is " + due;
-        }
-        String difference = difference();
-        return difference == null ? null : "after " + call + ": " + difference;
+        return new Call(name, arguments(name, b));
     }
 
     private String someName(int b) {
@@ -103,27 +137,28 @@ public final class RandomTest {
     }
 
     private Object[] arguments(String name, int b) {
-        int[] x = numbers(name, b);
-        if (x.length > 0 && random.nextInt(25) == 0) {
-            x[random.nextInt(x.length)] = STRANGE[random.nextInt(STRANGE.length)];
+        Object[] numbers = perhapsStrange(numbers(name, b));
+        int first = (Integer) numbers[0];
+        switch (name) {
+            case "ack":
+                return with(numbers, random.nextInt(3) == 0);
+            case "power":
+                return with(numbers, first < 0 || first >= model.bookieCount || model.bookies.get(first).up == (random.nextInt(9) == 0));
+            case "run":
+                return with(numbers, first < 0 || first >= 3 || model.brokers.get(first).up == (random.nextInt(9) == 0));
+            default:
+                return numbers;
         }
-        List<Object> all = new ArrayList<>();
-        for (int number : x) {
-            all.add(number);
-        }
-        if (name.equals("ack")) {
-            all.add(random.nextInt(3) == 0);
-        } else if (name.equals("power")) {
-            all.add(x[0] >= 0 && x[0] < model.bookieCount ? model.bookies.get(x[0]).up == (random.nextInt(9) == 0) : true);
-        } else if (name.equals("run")) {
-            all.add(x[0] >= 0 && x[0] < 3 ? model.brokers.get(x[0]).up == (random.nextInt(9) == 0) : true);
-        }
-        return all.toArray();
+    }
+
+    private static Object[] with(Object[] numbers, boolean last) {
+        Object[] all = Arrays.copyOf(numbers, numbers.length + 1);
+        all[numbers.length] = last;
+        return all;
     }
 
     private int[] numbers(String name, int b) {
         int s = random.nextInt(2);
-        int c = name.equals("permit") ? attachedOne(b, s) : random.nextInt(4);
         switch (name) {
             case "fence": case "add": case "open":
                 return new int[] {b, someBookie(b)};
@@ -133,14 +168,18 @@ public final class RandomTest {
                 return new int[] {downBookie() >= 0 && random.nextInt(8) > 0 ? downBookie() : someBookie(b)};
             case "publish":
                 return new int[] {b, random.nextInt(4), 1 + model.messages.size() / 2 + random.nextInt(8), random.nextInt()};
-            case "attach": case "detach":
-                return new int[] {b, s, c};
+            case "attach":
+                return new int[] {b, s, random.nextInt(4)};
+            case "detach":
+                return attachedOne(b, s);
             case "permit":
-                return new int[] {b, s, c, 1 + random.nextInt(3)};
+                int[] permit = Arrays.copyOf(attachedOne(b, s), 4);
+                permit[3] = 1 + random.nextInt(6);
+                return permit;
             case "send":
                 return new int[] {b, s};
             case "ack":
-                return sentOne(b, s, c);
+                return sentOne(b, s);
             default:
                 return new int[] {b};
         }
@@ -163,106 +202,30 @@ public final class RandomTest {
         return -1;
     }
 
-    private int attachedOne(int b, int s) {
+    /** Broker, subscription and consumer, where it can be one that is attached. */
+    private int[] attachedOne(int b, int s) {
         Model.Owned owned = model.brokers.get(b).owned;
-        if (owned != null) {
-            for (int c : owned.subscriptions.get(s).permits.keySet()) {
+        for (int i = 0; i < 4 && owned != null; i++) {
+            for (int c : owned.subscriptions.get((s + i) % 2).permits.keySet()) {
                 if (random.nextBoolean()) {
-                    return c;
+                    return new int[] {b, (s + i) % 2, c};
                 }
             }
         }
-        return random.nextInt(4);
+        return new int[] {b, s, random.nextInt(4)};
     }
 
-    private int[] sentOne(int b, int s, int c) {
+    /** Broker, subscription, consumer and position, where it can be what was sent and is not acked. */
+    private int[] sentOne(int b, int s) {
         Model.Owned owned = model.brokers.get(b).owned;
-        if (owned != null && random.nextInt(8) > 0) {
-            for (Map.Entry<Integer, Integer> sent : owned.subscriptions.get(s).sent.entrySet()) {
-                if (!owned.subscriptions.get(s).acked.contains(sent.getKey()) && random.nextBoolean()) {
-                    return new int[] {b, s, sent.getValue(), sent.getKey()};
+        for (int i = 0; i < 4 && owned != null && random.nextInt(16) > 0; i++) {
+            Model.SubscriptionModel subscription = owned.subscriptions.get((s + i) % 2);
+            for (Map.Entry<Integer, Integer> sent : subscription.sent.entrySet()) {
+                if (!subscription.acked.contains(sent.getKey()) && random.nextBoolean()) {
+                    return new int[] {b, (s + i) % 2, sent.getValue(), sent.getKey()};
                 }
             }
         }
-        return new int[] {b, s, c, random.nextInt(80)};
-    }
-
-    private static String invoke(Method method, Object target, Object[] arguments) {
-        try {
-            return String.valueOf(method.invoke(target, arguments));
-        } catch (InvocationTargetException e) {
-            return e.getCause().getClass().getName();
-        } catch (IllegalAccessException e) {
-            throw new IllegalStateException(e);
-        }
-    }
-
-    private static String compare(String call, int got, int due) {
-        return call + " = " + got + ", due is " + due;
-    }
-
-    private String difference() {
-        for (int what = -1; what <= 5; what++) {
-            if (topic.meta(what) != model.meta(what)) {
-                return compare("meta(" + what + ")", topic.meta(what), model.meta(what));
-            }
-        }
-        for (int l = -1; l <= 10; l++) {
-            for (int what = -1; what <= 10; what++) {
-                if (topic.ledger(l, what) != model.ledger(l, what)) {
-                    return compare("ledger(" + l + ", " + what + ")", topic.ledger(l, what), model.ledger(l, what));
-                }
-            }
-        }
-        for (int b = -1; b <= 3; b++) {
-            for (int what = -1; what <= 4; what++) {
-                if (topic.broker(b, what) != model.broker(b, what)) {
-                    return compare("broker(" + b + ", " + what + ")", topic.broker(b, what), model.broker(b, what));
-                }
-            }
-        }
-        String difference = differenceOfBookies();
-        return difference != null ? difference : differenceOfMessages();
-    }
-
-    private String differenceOfBookies() {
-        for (int k = -1; k <= 6; k++) {
-            for (int position = -1; position <= 8 * model.ledgers.size(); position++) {
-                if (topic.entry(k, position) != model.entry(k, position)) {
-                    return compare("entry(" + k + ", " + position + ")", topic.entry(k, position), model.entry(k, position));
-                }
-            }
-            for (int l = -1; l <= 10; l++) {
-                if (topic.fenced(k, l) != model.fenced(k, l)) {
-                    return "fenced(" + k + ", " + l + ") = " + topic.fenced(k, l);
-                }
-            }
-        }
-        return null;
-    }
-
-    private String differenceOfMessages() {
-        for (int b = -2; b <= 3; b++) {
-            for (int s = -1; s <= 2; s++) {
-                for (int position = -1; position <= 8 * model.ledgers.size(); position++) {
-                    if (topic.acked(b, s, position) != model.acked(b, s, position)) {
-                        return "acked(" + b + ", " + s + ", " + position + ") = " + topic.acked(b, s, position);
-                    }
-                }
-            }
-        }
-        for (int p = -1; p <= 4; p++) {
-            if (topic.heard(p) != model.heard(p)) {
-                return compare("heard(" + p + ")", topic.heard(p), model.heard(p));
-            }
-        }
-        for (int m = model.messages.size(); m <= model.messages.size() + 1; m++) {
-            for (int what = -1; what <= 3; what++) {
-                if (topic.message(m, what) != model.message(m, what)) {
-                    return compare("message(" + m + ", " + what + ")", topic.message(m, what), model.message(m, what));
-                }
-            }
-        }
-        return null;
+        return new int[] {b, s, random.nextInt(4), random.nextInt(80)};
     }
 }
