@@ -404,7 +404,7 @@ public final class TopicLedgers {
     }
 
     private void checkInEnsemble(Broker broker, int k) {
-        checkArgument(broker.ledger == NONE || metadata.ledgers[broker.ledger].placeOf(k) != NONE);
+        checkArgument(broker.ledger == NONE || metadata.ledgers[broker.ledger].isOn(k));
     }
 
     private void checkNotFencedOff(Broker broker, Bookie bookie) {
@@ -641,13 +641,13 @@ public final class TopicLedgers {
             Arrays.fill(ensemble, NONE);
         }
 
-        int placeOf(int k) {
+        boolean isOn(int k) {
             for (int i = 0; i < places; i++) {
                 if (ensemble[i] == k) {
-                    return i;
+                    return true;
                 }
             }
-            return NONE;
+            return false;
         }
 
         void findWriteSets(int size) {

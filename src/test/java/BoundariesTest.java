@@ -70,6 +70,8 @@ public final class BoundariesTest {
                 "power(4, true) ! ISE; power(5, true) ! ISE; run(0, true) ! ISE; run(1, true) ! ISE; run(2, true) ! ISE");
         test("0 OUT (at first)", Beginnings.small(), "broker(0, 0) = 0; broker(1, 0) = 0; broker(2, 0) = 0");
         test("LEDGERS 0 .. 9, ENTRIES 0 .. 5: the greatest position is 77", Beginnings.allFull(), "entry(0, 77) = 60; entry(0, 78) = 0; entry(0, 79) = 0; entry(0, 80) = 0");
+        test("META is always there", oneClosed().after("power(0, false); power(1, false); power(2, false); run(0, false); run(1, false); run(2, false)"), "meta(0) = 3; meta(1) = 0; meta(2) = 1; meta(4) = 1; ledger(0, 0) = 2; ledger(0, 1) = 0; ledger(0, 6) = 1");
+        test("512 calls", Beginnings.small().after("own(0);".repeat(510)), "own(2) = 2; meta(0) = 511");
         test("the version is the same: not outdated", Beginnings.small(), "own(0) = 2; save(0) = 0; trim(0) = 0; open(0, 0) = 0; save(0) = 0; trim(0) = 0; close(0) = -1; save(0) = 0; meta(0) = 8; broker(0, 3) = 8");
         test("the version is one greater: outdated", readyOutdated(), "broker(0, 3) = 1; meta(0) = 2; save(0) ! UOE; broker(0, 0) = 0; broker(0, 3) = 0; meta(0) = 2");
         test("the owner itself again: not outdated", Beginnings.small(), "own(0) = 2; own(0) = 2; save(0) = 0");
@@ -87,6 +89,7 @@ public final class BoundariesTest {
         test("not in the ensemble, and it is down", four.again().after("power(3, false)"), "add(0, 3) ! IAE; fence(0, 3) ! IAE");
         test("not in the ensemble, and the phase is another", four.again(), "fence(0, 3) ! IAE; own(1) = 1; add(1, 3) ! IAE; fence(1, 3) ! IAE");
         test("not in the ensemble, but with open()", four.again(), "open(0, 3) ! ISE; own(1) = 1; open(1, 3) ! ISE");
+        test("not in an ensemble of four", new Run(6, 4, 2, 2).after("own(0); open(0, 3)"), "add(0, 1) ! IAE; add(0, 2) ! IAE; add(0, 0) = 0; own(1) = 1; fence(1, 1) ! IAE; fence(1, 2) ! IAE; fence(1, 0) = 0");
         test("no ledger, so no ensemble", new Run(4, 3, 2, 2).after("own(0)"), "fence(0, 3) ! ISE; add(0, 3) ! ISE; fence(1, 3) ! ISE; add(1, 3) ! ISE");
         test("no ledger any more, so no ensemble", four.again().after("run(0, false)"), "fence(0, 3) ! ISE; add(0, 3) ! ISE; run(0, true); add(0, 3) ! ISE");
         test("q is not as said, and there is no room", Beginnings.sixConfirmed(), "publish(0, 0, 0, 1) ! IAE; publish(0, 0, 1001, 1) ! IAE; publish(0, 0, 7, 1) ! IOOBE");
@@ -120,7 +123,8 @@ public final class BoundariesTest {
         test("1 ensemble at most 4", new Run(6, 5, 2, 2), "own(0) = 2; power(0, false); power(1, false); open(0, 0) = 0; ledger(0, 2) = 2; ledger(0, 5) = 5; close(0) = -1; power(2, false); open(0, 0) ! IOOBE");
         test("1 write less than 1", new Run(3, 3, 0, 0), "own(0) = 2; open(0, 0) = 0; publish(0, 0, 1, 1) = 0; add(0, 0) = 1; add(0, 1) = 0; add(0, 2) = 0");
         test("1 write more than N", new Run(4, 3, 4, 1), "own(0) = 2; open(0, 0) = 0; publish(0, 0, 1, 1) = 0; add(0, 0) = 1; add(0, 1) = 1; add(0, 2) = 1; add(0, 3) ! IAE");
-        test("1 ack less than 1", new Run(3, 3, 2, 0), "own(0) = 2; open(0, 0) = 0; publish(0, 0, 1, 1) = 0; close(0) ! ISE; add(0, 0) = 1; sync(0) = 1; broker(0, 2) = 1");
+        test("1 ack less than 1", new Run(3, 3, 2, 0), "own(0) = 2; open(0, 0) = 0; publish(0, 0, 1, 1) = 0; sync(0) = 0; broker(0, 2) = 0; close(0) ! ISE; add(0, 0) = 1; sync(0) = 1; broker(0, 2) = 1");
+        test("1 ack less than 1: replies can be enough", new Run(3, 3, 2, 0).after("own(0); open(0, 0); own(1); fence(1, 0); fence(1, 1); fence(1, 2)"), "close(1) = -1");
         test("1 ack more than W", new Run(3, 3, 2, 3), "own(0) = 2; open(0, 0) = 0; publish(0, 0, 1, 1) = 0; add(0, 0) = 1; add(0, 1) = 1; sync(0) = 1; broker(0, 2) = 0; sync(1) = 1; broker(0, 2) = 1");
     }
 
@@ -135,6 +139,8 @@ public final class BoundariesTest {
         test("2 the same one again: what it had is gone", Beginnings.twoConfirmed().after("attach(0, 1, 1); permit(0, 1, 1, 5); send(0, 1); send(0, 1); ack(0, 1, 1, 0, false); close(0)"),
                 "own(0) = 2; broker(0, 3) = 4; acked(0, 1, 0) = false; permit(0, 1, 1, 1) ! ISE; ack(0, 1, 1, 1, false) ! NSEE; attach(0, 1, 1); send(0, 1) ! NSEE; permit(0, 1, 1, 5); send(0, 1) = 100");
         test("2 replies are gone", recovering().after("fence(1, 0); fence(1, 1); fence(1, 2)"), "broker(1, 2) = 2; own(1) = 1; broker(1, 2) = 0; close(1) ! ISE");
+        test("2 what was replied is gone", Beginnings.small().after("own(0); open(0, 0); publish(0, 0, 1, 1); add(0, 0); own(1); fence(1, 0); power(0, false); wipe(0)"), "own(1) = 1; fence(1, 1) = 0; fence(1, 2) = 0; broker(1, 2) = 0; close(1) = -1");
+        test("2 what was safe is gone", recovering().after("fence(1, 0); fence(1, 1); fence(1, 2)"), "own(1) = 1; fence(1, 1) = 2; fence(1, 2) = 1; broker(1, 2) = 2; close(1) ! ISE; fence(1, 0) = 1; close(1) = 1");
         test("2 nothing is saved", oneClosed(), "own(1) = 2; acked(1, 0, 0) = false; acked(1, 1, 0) = false");
         test("2 what is saved is acked, of each subscription", oneClosed().after("attach(0, 1, 1); permit(0, 1, 1, 5); send(0, 1); ack(0, 1, 1, 0, false); save(0)"), "own(1) = 2; acked(1, 1, 0) = true; acked(1, 0, 0) = false");
     }
@@ -186,6 +192,8 @@ public final class BoundariesTest {
         test("4 only what was found, up to a gap", new Run(3, 3, 2, 2).after("own(0); open(0, 0); publish(0, 0, 1, 1); publish(0, 0, 2, 1); publish(0, 0, 3, 1); add(0, 0); own(1); fence(1, 0); fence(1, 1)"),
                 "broker(1, 2) = 1; add(1, 1) = 1; add(1, 2) = 0; entry(1, 0) = 1; entry(1, 1) = 0; entry(2, 2) = 0");
         test("4 synced at once", recovering().after("power(2, false); wipe(2); power(2, true); fence(1, 0); fence(1, 1)"), "add(1, 2) = 1; entry(2, 1) = 2; sync(2) = 0; power(2, false); entry(2, 1) = 2");
+        test("4 synced at once, and what was synced stays so", Beginnings.small().after("own(0); open(0, 0); publish(0, 0, 1, 1); add(0, 0); publish(0, 0, 2, 1); publish(0, 0, 3, 1); add(0, 1); add(0, 2); own(1); fence(1, 0); fence(1, 1); fence(1, 2)"),
+                "add(1, 0) = 1; entry(0, 0) = 1; entry(0, 2) = 3; sync(0) = 0");
         test("4 the fence is no hindrance", recovering().after("power(2, false); wipe(2); power(2, true); fence(1, 0); fence(1, 1); fence(1, 2)"), "fenced(2, 0) = true; add(1, 2) = 1");
         test("4 to one that has not replied", recovering().after("power(2, false); wipe(2); power(2, true); fence(1, 0); fence(1, 1)"), "fenced(2, 0) = false; add(1, 2) = 1; fenced(2, 0) = false; close(1) = 1");
         test("4 it has all", recovering().after("fence(1, 0); fence(1, 1)"), "add(1, 0) = 0; add(1, 1) = 0; add(1, 2) = 0");
@@ -374,6 +382,8 @@ public final class BoundariesTest {
         test("12 RECOVERING, the ledger is not closed", recovering().after("attach(1, 0, 0); permit(1, 0, 0, 9); fence(1, 0); fence(1, 1); fence(1, 2)"), "broker(1, 2) = 2; send(1, 0) ! NSEE; close(1) = 1; send(1, 0) = 0; send(1, 0) = 1; send(1, 0) ! NSEE");
         test("12 from the base on", Beginnings.oneConfirmed().after("close(0); attach(0, 0, 0); permit(0, 0, 0, 9); own(1); attach(1, 0, 0); permit(1, 0, 0, 9); attach(1, 1, 0); permit(1, 1, 0, 9);"
                 + "send(1, 0); send(1, 1); ack(1, 0, 0, 0, false); ack(1, 1, 0, 0, false); save(1); trim(1)"), "meta(3) = 1; acked(0, 0, 0) = false; send(0, 0) ! NSEE");
+        test("12 a ledger that another is WRITING", recovering().after("attach(0, 0, 0); permit(0, 0, 0, 9); fence(1, 0); fence(1, 1); fence(1, 2); close(1); open(1, 0); publish(1, 0, 2, 2); add(1, 0); add(1, 1); sync(0); sync(1)"),
+                "broker(0, 2) = 2; broker(1, 2) = 1; send(0, 0) = 0; send(0, 0) = 1; send(0, 0) ! NSEE; close(1) = 0; send(0, 0) = 8");
         test("12 a closed ledger: 0 .. last, not what it had confirmed", Beginnings.twoConfirmed().after("attach(0, 0, 0); permit(0, 0, 0, 9); power(1, false); wipe(1); power(1, true); power(2, false); wipe(2); power(2, true); own(1); fence(1, 0); fence(1, 1); fence(1, 2); add(1, 1); close(1); power(2, false); wipe(2); power(2, true); add(0, 2); sync(2)"),
                 "broker(0, 0) = 3; broker(0, 2) = 2; entry(2, 1) = 2; ledger(0, 1) = 0; send(0, 0) = 0; send(0, 0) ! NSEE");
         test("12 the last position", Beginnings.allFull().after("attach(0, 0, 3); permit(0, 0, 3, 100);" + "send(0, 0);".repeat(59)), "send(0, 0) = 377; send(0, 0) ! NSEE; ack(0, 0, 3, 77, true) = 60");
@@ -395,7 +405,7 @@ public final class BoundariesTest {
         test("12 subscription 1: behind it, not the lowest", four.again().after("permit(0, 1, 1, 9); send(0, 1); permit(0, 1, 0, 9); permit(0, 1, 3, 9)"), "send(0, 1) = 301; send(0, 1) = 2; send(0, 1) = 103");
         test("12 subscription 1: one without a permit is passed over", four.again().after("permit(0, 1, 0, 9); permit(0, 1, 1, 1); permit(0, 1, 2, 9)"), "send(0, 1) = 0; send(0, 1) = 101; send(0, 1) = 202; send(0, 1) = 3; send(0, 1) = 204");
         test("12 subscription 1: behind one that is not attached any more", four.again().after("permit(0, 1, 0, 9); permit(0, 1, 1, 9); permit(0, 1, 2, 9); send(0, 1); send(0, 1); ack(0, 1, 1, 1, false); detach(0, 1, 1)"), "send(0, 1) = 202; send(0, 1) = 3");
-        test("12 subscription 1: a refused one is no turn", four.again().after("permit(0, 1, 0, 9); permit(0, 1, 1, 9); send(0, 1); power(0, false)"), "send(0, 1) ! NSEE; send(0, 1) ! NSEE; power(0, true); send(0, 1) = 101");
+        test("12 subscription 1: a refused one is no turn", four.again().after("permit(0, 1, 0, 9); permit(0, 1, 1, 9); send(0, 1); power(0, false)"), "send(0, 1) ! NSEE; power(0, true); send(0, 1) = 101");
         test("12 subscription 1: of each broker its own", four.again().after("permit(0, 1, 0, 9); permit(0, 1, 1, 9); send(0, 1); close(0); own(1); attach(1, 1, 0); attach(1, 1, 1); permit(1, 1, 0, 9); permit(1, 1, 1, 9)"), "send(1, 1) = 0; send(0, 1) = 101; send(1, 1) = 101");
         test("12 subscription 1: since it became the owner", four.again().after("permit(0, 1, 0, 9); permit(0, 1, 1, 9); send(0, 1); close(0); own(0); attach(0, 1, 0); attach(0, 1, 1); permit(0, 1, 0, 9); permit(0, 1, 1, 9)"), "send(0, 1) = 0; send(0, 1) = 101");
     }
@@ -482,6 +492,8 @@ public final class BoundariesTest {
         test("15 saved for both", acked.again().after("save(0)"), "trim(0) = 1; meta(3) = 1; meta(0) = 5; entry(0, 0) = 0; entry(1, 0) = 0; entry(1, 1) = 0; entry(2, 1) = 0; acked(-1, 0, 0) = true; ledger(0, 0) = 2; ledger(0, 1) = 1; ledger(0, 6) = 1");
         test("15 a bookie that is down keeps them", acked.again().after("save(0); power(1, false)"), "trim(0) = 1; entry(0, 0) = 0; entry(1, 0) = 1; entry(1, 1) = 2; entry(2, 1) = 0; power(1, true); entry(1, 0) = 1");
         test("15 all bookies are down", acked.again().after("save(0); power(0, false); power(1, false); power(2, false)"), "trim(0) = 1; meta(3) = 1; entry(0, 0) = 1; entry(2, 1) = 2");
+        test("15 what is given again is not synced", Beginnings.oneConfirmed().after("own(1); fence(1, 0); fence(1, 1); close(1); attach(1, 0, 0); attach(1, 1, 0); permit(1, 0, 0, 1); permit(1, 1, 0, 1); send(1, 0); send(1, 1); ack(1, 0, 0, 0, false); ack(1, 1, 0, 0, false); save(1); power(0, false); wipe(0); power(0, true)"),
+                "add(0, 0) = 1; sync(0) = 1; trim(1) = 1; entry(0, 0) = 0; add(0, 0) = 1; entry(0, 0) = 101; power(0, false); entry(0, 0) = 0");
         test("15 the next ledger keeps its entries", acked.again().after("save(0); open(0, 0); publish(0, 0, 9, 9); add(0, 0)"), "trim(0) = 1; entry(0, 0) = 0; entry(0, 8) = 103; sync(0) = 1");
         test("15 the base stops at one that is not done", acked.again().after("open(0, 0); publish(0, 0, 9, 9); add(0, 0); add(0, 1); sync(0); sync(1); close(0); open(0, 0); close(0); save(0)"), "trim(0) = 1; meta(3) = 1; meta(2) = 3; send(0, 0) = 8; ack(0, 0, 0, 8, true) = 1; send(0, 1) = 8; ack(0, 1, 0, 8, true) = 1; save(0) = 2; trim(0) = 2; meta(3) = 3");
     }
@@ -503,6 +515,7 @@ public final class BoundariesTest {
         test("17 all entries, of all ledgers", oneClosed().after("open(0, 0); publish(0, 0, 2, 2); add(0, 0); sync(0); power(0, false)"), "entry(0, 0) = 1; entry(0, 8) = 2; wipe(0); entry(0, 0) = 0; entry(0, 8) = 0; entry(1, 0) = 1");
         test("17 all fences, of all ledgers", Beginnings.small().after("own(0); open(0, 0); own(0); fence(0, 0); fence(0, 1); close(0); open(0, 0); own(0); fence(0, 0); power(0, false)"), "fenced(0, 0) = true; fenced(0, 1) = true; wipe(0); fenced(0, 0) = false; fenced(0, 1) = false; fenced(1, 0) = true");
         test("17 it stays down", Beginnings.small().after("power(0, false); wipe(0)"), "power(0, false) ! ISE; power(0, true)");
+        test("17 what is given again is not synced", Beginnings.oneConfirmed().after("power(0, false); wipe(0); power(0, true)"), "add(0, 0) = 1; entry(0, 0) = 101; power(0, false); entry(0, 0) = 0");
     }
 
     private static void run() {

@@ -10,6 +10,7 @@ import java.util.Map;
 final class Sight {
     private static final int BROKERS = 3;
     private static final int BOOKIES = 6;
+    private static final int CONSUMERS = 4;
     /** By how many ledgers there are. */
     private static final Map<Integer, List<List<Call>>> WAYS = new HashMap<>();
 
@@ -21,7 +22,7 @@ final class Sight {
         Run counting = due.again();
         int ledgers = counting.ask("meta(2)");
         int messages = counting.ask("meta(4)");
-        String difference = differenceOnWay(got, due, questions(ledgers, messages));
+        String difference = differenceInAnswers(got, due, questions(ledgers, messages));
         List<List<Call>> ways = WAYS.computeIfAbsent(ledgers, Sight::ways);
         for (int i = 0; i < ways.size() && difference == null; i++) {
             difference = differenceOnWay(got, due, ways.get(i));
@@ -29,23 +30,38 @@ final class Sight {
         return difference;
     }
 
+    private static String differenceInAnswers(Run got, Run due, List<Call> questions) {
+        Run one = got.again();
+        Run other = due.again();
+        for (Call question : questions) {
+            if (one.room() == 0 || other.room() == 0) {
+                one = got.again();
+                other = due.again();
+            }
+            String difference = differenceInAnswer(one, other, question);
+            if (difference != null) {
+                return difference;
+            }
+        }
+        return null;
+    }
+
     private static String differenceOnWay(Run got, Run due, List<Call> way) {
         Run one = got.again();
         Run other = due.again();
         for (int i = 0; i < way.size(); i++) {
-            if (one.room() == 0 || other.room() == 0) {
-                // Only the questions are that many, and they change nothing.
-                one = got.again();
-                other = due.again();
-            }
-            String answer = one.make(way.get(i));
-            String dueAnswer = other.make(way.get(i));
-            if (!answer.equals(dueAnswer)) {
-                String path = way.get(0).name.equals("meta") ? "" : " on the way " + way.subList(0, i);
-                return way.get(i) + " -> " + answer + ", due is " + dueAnswer + path;
+            String difference = differenceInAnswer(one, other, way.get(i));
+            if (difference != null) {
+                return difference + " on the way " + way.subList(0, i);
             }
         }
         return null;
+    }
+
+    private static String differenceInAnswer(Run one, Run other, Call call) {
+        String got = one.make(call);
+        String due = other.make(call);
+        return got.equals(due) ? null : call + " -> " + got + ", due is " + due;
     }
 
     static List<Call> questions(int ledgers, int messages) {
@@ -90,8 +106,8 @@ final class Sight {
             }
             addBrokerWays(ways, b);
         }
-        ways.add(each("power(#, false); wipe(#); power(#, true)"));
-        ways.add(each("sync(#)") + asked());
+        ways.add(each(BOOKIES, "power(#, false); wipe(#); power(#, true)"));
+        ways.add(each(BOOKIES, "sync(#)") + asked());
         for (int k = 0; k < BOOKIES; k++) {
             ways.add("sync(" + k + ");" + asked());
         }
@@ -103,29 +119,32 @@ final class Sight {
     }
 
     private static void addConsumerWays(List<String> ways, int b, int s, int ledgers) {
-        String send = "send(" + b + ", " + s + ");";
-        ways.add(send.repeat(8));
-        StringBuilder permits = new StringBuilder();
-        StringBuilder detaches = new StringBuilder();
-        for (int c = 0; c < 4; c++) {
-            permits.append("permit(" + b + ", " + s + ", " + c + ", 3);");
-            detaches.append("detach(" + b + ", " + s + ", " + c + ");");
-        }
-        ways.add(permits + send.repeat(8));
-        ways.add(detaches + "attach(b, s, 3); permit(b, s, 3, 9);".replace("b", "" + b).replace("s,", s + ",") + send.repeat(8));
+        String where = "(" + b + ", " + s;
+        String sends = ("send" + where + ");").repeat(8);
+        String attaches = each(CONSUMERS, "attach" + where + ", #)");
+        String permits = each(CONSUMERS, "permit" + where + ", #, 3)");
+        ways.add(sends);
+        ways.add(permits + sends);
+        ways.add(newEntries(b) + attaches + permits + sends);
+        ways.add(each(CONSUMERS, "detach" + where + ", #)") + attaches + permits + sends);
         // The last two ledgers will do: what is refused has to do with the newest ones.
         StringBuilder acks = new StringBuilder();
         for (int position = 8 * Math.max(0, ledgers - 2); position < 8 * ledgers; position++) {
-            for (int c = 0; c < 4; c++) {
-                acks.append("ack(" + b + ", " + s + ", " + c + ", " + position + ", false);");
-            }
+            acks.append(each(CONSUMERS, "ack" + where + ", #, " + position + ", false)"));
         }
         ways.add(acks.toString());
     }
 
+    /** Whatever its phase, the broker has confirmed entries then, if there is room and it is not OUT or outdated. */
+    private static String newEntries(int b) {
+        String all = each(BOOKIES, "add(b, #); sync(#)");
+        return (each(BOOKIES, "power(#, true)") + each(BOOKIES, "fence(b, #)") + all + "close(b); open(b, 0); publish(b, 0, 1000, 9); publish(b, 3, 1000, 9);" + all)
+                .replace("(b", "(" + b);
+    }
+
     private static void addBrokerWays(List<String> ways, int b) {
-        ways.add(each("add(" + b + ", #)") + each("sync(#)") + asked() + "close(" + b + ")");
-        ways.add(each("fence(" + b + ", #); broker(" + b + ", 2)") + "close(" + b + ")");
+        ways.add(each(BOOKIES, "add(" + b + ", #)") + each(BOOKIES, "sync(#)") + asked() + "close(" + b + ")");
+        ways.add(each(BOOKIES, "fence(" + b + ", #); broker(" + b + ", 2)") + "close(" + b + ")");
         for (int k = 0; k < BOOKIES; k++) {
             ways.add(("fence(b, " + k + "); broker(b, 2); close(b); meta(0)").replace("(b", "(" + b));
         }
@@ -144,10 +163,10 @@ final class Sight {
         return "broker(0, 2); broker(1, 2); broker(2, 2); heard(0); heard(1); heard(2); heard(3); close(0); close(1); close(2); meta(0);";
     }
 
-    private static String each(String text) {
+    private static String each(int count, String text) {
         StringBuilder all = new StringBuilder();
-        for (int k = 0; k < BOOKIES; k++) {
-            all.append(text.replace("#", "" + k)).append(';');
+        for (int i = 0; i < count; i++) {
+            all.append(text.replace("#", "" + i)).append(';');
         }
         return all.toString();
     }

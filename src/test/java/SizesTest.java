@@ -60,6 +60,7 @@ public final class SizesTest {
         for (int i = 0; i < 4; i++) {
             due(name, run, "ledger(0, " + (2 + i) + ")", i < n ? i : -1);
         }
+        due(name, run, "broker(0, 2)", 0);
         for (int k = 0; k < n; k++) {
             due(name, run, "add(0, " + k + ")", k < w ? 1 : 0);
         }
@@ -142,7 +143,7 @@ public final class SizesTest {
         for (int places = 0; places < 1 << ensemble; places++) {
             repliesThatAreEnough(places);
         }
-        for (int e = 0; e < ENTRIES; e++) {
+        for (int e : new int[] {0, 3, ENTRIES - 1}) {
             toldByEnough(e);
             for (int has = 0; has <= write; has++) {
                 safeOnEnough(e, has);
